@@ -710,7 +710,7 @@ public final class FleetSlots {
             fuse = v.floor;
         }
 
-        /** All but the number and the HUB, which no UPDATE changes. */
+        /** All that the ACTS of an UPDATE read or change; who made them keeps count of fails. */
         void become(Device other) {
             sort = other.sort;
             active.fill(other.active.program, other.active.blocks);
@@ -719,8 +719,6 @@ public final class FleetSlots {
             spareIsToBeTried = other.spareIsToBeTried;
             triesLeft = other.triesLeft;
             fuse = other.fuse;
-            fails = other.fails;
-            failsSinceFresh = other.failsSinceFresh;
         }
 
         boolean isAtLeastAt(Version v) {

@@ -16,6 +16,7 @@ public final class AskedTest {
         traceOfAllAsks();
         count();
         countOfKinds();
+        countOfAFullFleet();
         status();
         check.end();
     }
@@ -215,6 +216,29 @@ public final class AskedTest {
         x.update(3, 4);
         check.due("one is FRESH", 1, x.count(4));
         check.due("and STUCK no more", 0, x.count(5));
+    }
+
+    private static void countOfAFullFleet() {
+        FleetSlots x = new FleetSlots();
+        x.version(1, 0, 0);
+        for (int d = 0; d < 30; d++) {
+            x.device(d % 8, 0, NONE);
+        }
+        check.due("all are ALIVE", 30, x.count(3));
+        check.due("all are SETTLED", 30, x.count(4));
+        check.due("none is STUCK", 0, x.count(5));
+        x.version(1, 0, 255);
+        for (int d = 0; d < 60; d++) {
+            x.update(d % 30, 1);
+        }
+        check.due("all are ALIVE", 30, x.count(3));
+        check.due("none is FRESH", 0, x.count(4));
+        check.due("all are STUCK", 30, x.count(5));
+        x.sheet(0, 0, 1);
+        x.set(0, 0, 100);
+        check.due("all are of the WAVE", 30, x.campaign(0, 0, 0, 1, 0));
+        check.due("all are above", 30, x.runs(5));
+        check.due("none is asked", 0, x.tick(0));
     }
 
     private static void status() {

@@ -11,6 +11,7 @@ public final class VersionsTest {
         pathRefused();
         pathOfLeastBytes();
         pathOfFewestSteps();
+        pathsOneAfterTheOther();
         pathOfLeastVersions();
         pathsAreThoseOfASearchThroughAll();
         check.end();
@@ -116,6 +117,27 @@ public final class VersionsTest {
         duePath(x, 0, 3, 30, 0, 2, 3);
         x.step(0, 3, 30);
         duePath(x, 0, 3, 30, 0, 3);
+        FleetSlots y = withVersions(5);
+        y.step(0, 1, 20);
+        y.step(1, 4, 10);
+        y.step(0, 2, 10);
+        y.step(2, 3, 10);
+        y.step(3, 4, 10);
+        duePath(y, 0, 4, 30, 0, 1, 4);
+    }
+
+    /** A search must not be led by what an earlier one left. */
+    private static void pathsOneAfterTheOther() {
+        FleetSlots x = withVersions(4);
+        x.step(0, 1, 1);
+        x.step(1, 2, 2);
+        x.step(2, 3, 4);
+        duePath(x, 0, 3, 7, 0, 1, 2, 3);
+        duePath(x, 0, 1, 1, 0, 1);
+        duePath(x, 1, 3, 6, 1, 2, 3);
+        duePath(x, 0, 2, 3, 0, 1, 2);
+        duePath(x, 2, 3, 4, 2, 3);
+        duePath(x, 0, 3, 7, 0, 1, 2, 3);
     }
 
     private static void pathOfLeastVersions() {
@@ -152,19 +174,24 @@ public final class VersionsTest {
             for (int from = 0; from < 10; from++) {
                 for (int to = from + 1; to < 10; to++) {
                     if (random.nextInt(10) < dense) {
-                        bytes[from][to] = 1 + random.nextInt(spread) * (to - from);
+                        bytes[from][to] = run % 2 == 0 ? 1 + random.nextInt(spread)
+                            : to - from + random.nextInt(spread) / 3;
                         x.step(from, to, bytes[from][to]);
                     }
                 }
             }
-            int from = random.nextInt(4);
-            int to = 6 + random.nextInt(4);
-            int[] best = bestOfAll(bytes, from, to);
-            if (best == null) {
-                check.due("no path from " + from + " to " + to, Check.NONE, x.path(from, to, 0));
-            } else {
-                duePath(x, from, to, bytesOf(bytes, best), best);
+            for (int k = 0; k < 6; k++) {
+                dueBestOfAll(x, bytes, random.nextInt(4), 4 + random.nextInt(6));
             }
+        }
+    }
+
+    private static void dueBestOfAll(FleetSlots x, int[][] bytes, int from, int to) {
+        int[] best = bestOfAll(bytes, from, to);
+        if (best == null) {
+            check.due("no path from " + from + " to " + to, Check.NONE, x.path(from, to, 0));
+        } else {
+            duePath(x, from, to, bytesOf(bytes, best), best);
         }
     }
 
