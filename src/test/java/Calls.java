@@ -2,14 +2,13 @@ import java.util.Random;
 
 /** Random calls, with numbers that are mostly small, at times at an edge, and seldom far beyond. */
 final class Calls {
-    static final int METHODS = 26;
+    static final int METHODS = 25, STATUS = 24;
     private static final int[] FAR = {Integer.MIN_VALUE, Integer.MAX_VALUE, FleetSlots.NONE, FleetSlots.BAD,
         Integer.MIN_VALUE + 1, Integer.MAX_VALUE - 1, 65536, -32769, 100000, 100001};
     /** For each method the number behind the greatest that each argument is meant to have. */
     private static final int[][] BOUNDS = {{8, 3, 61}, {8, 60, 300}, {8, 60, 8, 60, 60}, {8}, {9, 10, 256},
         {10, 10, 1001}, {10, 10, 2}, {10, 10, 6}, {8, 10, 30}, {30, 9}, {30, 10}, {30, 10}, {30, 10, 15},
-        {30, 10, 15, 4}, {70000}, {10, 8, 60, 7, 11}, {4000}, {6}, {13, 11, 11}, {30}, {30, 4}, {30, 2}, {16}, {7}, {},
-        {}};
+        {30, 10, 15, 4}, {70000}, {10, 8, 60, 7, 11}, {4000}, {6}, {13, 11, 11}, {30}, {30, 4}, {30, 2}, {16}, {7}, {}};
 
     private Calls() {
     }

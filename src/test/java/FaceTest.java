@@ -9,7 +9,7 @@ import java.util.List;
 
 /** The public face, and the rules of LANGUAGE.md that can be seen of the compiled classes. */
 public final class FaceTest {
-    private static final Check check = new Check("FaceTest");
+    private static final Check check = new Check(FaceTest.class);
     private static final String[] METHODS = {"int sheet 3", "int set 3", "int copy 5", "int drop 1", "int version 3",
         "int step 3", "int path 3", "int on 3", "int device 3", "int told 2", "int update 2", "int acts 2",
         "int power 3", "int cut 4", "int seed 1", "int campaign 5", "int tick 1", "int runs 1", "long chance 3",
@@ -21,7 +21,7 @@ public final class FaceTest {
         for (Class<?> inside : FleetSlots.class.getDeclaredClasses()) {
             dueInside(inside);
         }
-        check.due("at most twelve classes", 1, FleetSlots.class.getDeclaredClasses().length < 12 ? 1 : 0);
+        check.dueTrue("at most twelve classes", FleetSlots.class.getDeclaredClasses().length < 12);
         check.end();
     }
 
@@ -34,45 +34,45 @@ public final class FaceTest {
 
     private static void dueFace() {
         Class<?> face = FleetSlots.class;
-        dueTrue("public final", Modifier.isPublic(face.getModifiers()) && Modifier.isFinal(face.getModifiers()));
+        check.dueTrue("public final", Modifier.isPublic(face.getModifiers()) && Modifier.isFinal(face.getModifiers()));
         List<String> methods = new ArrayList<>();
         for (Method m : face.getDeclaredMethods()) {
             if (Modifier.isPublic(m.getModifiers())) {
-                dueTrue(m + " takes ints", allInts(m.getParameterTypes()));
+                check.dueTrue(m + " takes ints", allInts(m.getParameterTypes()));
                 methods.add(m.getReturnType() + " " + m.getName() + " " + m.getParameterCount());
             } else {
-                dueTrue(m + " is private", Modifier.isPrivate(m.getModifiers()));
+                check.dueTrue(m + " is private", Modifier.isPrivate(m.getModifiers()));
                 dueOwnName(m);
             }
         }
         List<String> due = new ArrayList<>(Arrays.asList(METHODS));
         Collections.sort(due);
         Collections.sort(methods);
-        dueTrue("the methods of the face, not " + methods, due.equals(methods));
+        check.dueTrue("the methods of the face, not " + methods, due.equals(methods));
         List<String> fields = new ArrayList<>();
         for (Field f : face.getDeclaredFields()) {
             if (Modifier.isPublic(f.getModifiers())) {
                 fields.add(f.getName());
             } else {
-                dueTrue(f + " is private", Modifier.isPrivate(f.getModifiers()));
+                check.dueTrue(f + " is private", Modifier.isPrivate(f.getModifiers()));
             }
-            dueTrue(f + ", if static, is final", !Modifier.isStatic(f.getModifiers()) || Modifier.isFinal(f.getModifiers()));
+            check.dueTrue(f + ", if static, is final", !Modifier.isStatic(f.getModifiers()) || Modifier.isFinal(f.getModifiers()));
         }
-        dueTrue("the constants of the face", fields.equals(Arrays.asList("NONE", "BAD", "STATE", "FULL")));
+        check.dueTrue("the constants of the face", fields.equals(Arrays.asList("NONE", "BAD", "STATE", "FULL")));
         for (Constructor<?> c : face.getDeclaredConstructors()) {
-            dueTrue("one public constructor", Modifier.isPublic(c.getModifiers()) && c.getParameterCount() == 0);
+            check.dueTrue("one public constructor", Modifier.isPublic(c.getModifiers()) && c.getParameterCount() == 0);
         }
     }
 
     private static void dueInside(Class<?> inside) {
-        dueTrue(inside + " is static", Modifier.isStatic(inside.getModifiers()));
-        dueTrue(inside + " is not public", !Modifier.isPublic(inside.getModifiers())
+        check.dueTrue(inside + " is static", Modifier.isStatic(inside.getModifiers()));
+        check.dueTrue(inside + " is not public", !Modifier.isPublic(inside.getModifiers())
             && !Modifier.isProtected(inside.getModifiers()));
         for (Method m : inside.getDeclaredMethods()) {
             dueOwnName(m);
         }
         for (Field f : inside.getDeclaredFields()) {
-            dueTrue(f + ", if static, is final", !Modifier.isStatic(f.getModifiers()) || Modifier.isFinal(f.getModifiers()));
+            check.dueTrue(f + ", if static, is final", !Modifier.isStatic(f.getModifiers()) || Modifier.isFinal(f.getModifiers()));
         }
     }
 
@@ -87,12 +87,8 @@ public final class FaceTest {
 
     private static void dueOwnName(Method m) {
         for (String row : METHODS) {
-            dueTrue(m + " has a name of its own", !row.split(" ")[1].equals(m.getName()));
+            check.dueTrue(m + " has a name of its own", !row.split(" ")[1].equals(m.getName()));
         }
-        dueTrue(m + " takes at most seven", m.getParameterCount() <= 7);
-    }
-
-    private static void dueTrue(String what, boolean is) {
-        check.due(what, 1, is ? 1 : 0);
+        check.dueTrue(m + " takes at most seven", m.getParameterCount() <= 7);
     }
 }

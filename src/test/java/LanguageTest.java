@@ -6,7 +6,7 @@ import java.util.regex.Pattern;
 
 /** The rules of LANGUAGE.md that can be seen of the text of src/main/java/FleetSlots.java. */
 public final class LanguageTest {
-    private static final Check check = new Check("LanguageTest");
+    private static final Check check = new Check(LanguageTest.class);
     private static final String[] FORBIDDEN = {"\\bthrow\\b", "\\bthrows\\b", "\\btry\\b", "\\bcatch\\b",
         "\\bsynchronized\\b", "\\bassert\\b", "\\bpackage\\b", "\\bimport\\b", "\\bprotected\\b", "\\byield\\b",
         "->", "::", "@", "\"", "Exact\\s*\\(", "\\bequals\\b", "\\bhashCode\\b", "\\btoString\\b",
@@ -38,6 +38,6 @@ public final class LanguageTest {
             long lines = m.group().lines().count();
             check.due("lines of a method, above 60: " + m.group().trim().split("\n")[0], 0, lines > 60 ? lines : 0);
         }
-        check.due("methods were found", 1, many > 50 ? 1 : 0);
+        check.dueTrue("methods were found", many > 50);
     }
 }
