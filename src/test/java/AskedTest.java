@@ -95,8 +95,10 @@ public final class AskedTest {
         check.due("twice", STUCK, x.kind(0));
         x.update(0, 1);
         check.due("FRESH", FRESH, x.kind(0));
+        check.due("STUCK no more", Check.KIND, x.as(0, STUCK));
         x.version(1, 0, 0);
         check.due("none since", DEVICE, x.kind(0));
+        check.due("not STUCK", Check.KIND, x.as(0, STUCK));
         x.power(0, 2, 0);
         check.due("once since", DEVICE, x.kind(0));
         x.power(0, 2, 0);
@@ -434,8 +436,11 @@ public final class AskedTest {
         x.as(0, 1);
         x.count(4);
         x.told(0, 0);
-        x.update(0, 3);
+        Fleet.shares(x, 100);
+        x.campaign(3, 0, 0, 1, 10);
+        check.due("two are asked by a TICK", 2, x.tick(100000));
         x.version(1, 2, 0);
+        x.update(0, 4);
         x.status();
         check.dueTrace("others", x, 21, 20, 12, 11, 10);
     }

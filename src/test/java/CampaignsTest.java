@@ -159,6 +159,18 @@ public final class CampaignsTest {
         check.dueTold("DRAW 89", x, 11, 1);
     }
 
+    @Says("DEVICES of the WAVE that is on")
+    static void terms3_aDeviceThatComesWhileTheWaveIsOnIsAskedInIt() {
+        FleetSlots x = fleet(1, 0, 1);
+        begin(x, 0, 71);
+        check.due("the first", 1, x.tick(ALL));
+        check.due("DRAW 70 comes", 1, x.device(0, 0, NONE));
+        check.due("DRAW 74 comes", 2, x.device(0, 0, NONE));
+        check.due("the one of DRAW 70", 1, x.tick(ALL));
+        check.due("none", 0, x.tick(ALL));
+        check.dueRuns("over", x, 0, 2, 0, OVER, 200, 2);
+    }
+
     @Says("by numbers")
     static void terms3_aTickAsksThemByNumbers() {
         FleetSlots x = fleet(1, 0, 12);
@@ -279,6 +291,23 @@ public final class CampaignsTest {
         check.due("30 are too few", 0, x.tick(30));
         check.due("31 are not", 1, x.tick(31));
         check.due("by one STEP", 92, x.runs(4));
+    }
+
+    @Says("the bytes of the PATH from what is ON")
+    static void terms3_thePathIsThatOfTheMomentAndOfWhatIsOn() {
+        FleetSlots x = Fleet.ofVersions(3);
+        Fleet.devices(x, 3);
+        x.step(1, 2, 7);
+        Fleet.shares(x, 100);
+        x.campaign(2, 0, 0, 1, 0);
+        check.due("no PATH from 0: all BLOCKS", 1, x.tick(100));
+        check.due("sent", 100, x.runs(4));
+        x.step(0, 1, 9);
+        check.due("a PATH from 0 by 1", 1, x.tick(16));
+        check.due("sent", 116, x.runs(4));
+        x.update(2, 1);
+        check.due("a PATH from 1", 1, x.tick(7));
+        check.due("sent", 123, x.runs(4));
     }
 
     @Says("(where there is none: all BLOCKS, 100 bytes each)")
@@ -686,6 +715,7 @@ public final class CampaignsTest {
         Fleet.shares(x, 50, 50, 0);
         check.due("from 0, 4 WAVES", PLACE, x.campaign(1, 0, 0, 4, 0));
         check.due("from -1", PLACE, x.campaign(1, 0, -1, 2, 0));
+        check.due("from 2, where a 0 is, 2 WAVES", PLACE, x.campaign(1, 0, 2, 2, 0));
         check.due("status()", 2, x.status());
         check.due("from 0, 3 WAVES", BAD, x.campaign(1, 0, 0, 3, 0));
         check.due("status() is not that of BAD", 2, x.status());
@@ -851,6 +881,18 @@ public final class CampaignsTest {
         check.due("one that was asked", 3, x.runs(5));
         x.device(0, 2, NONE);
         check.due("one that came", 4, x.runs(5));
+    }
+
+    @Says("5 DEVICES at its VERSION or above.")
+    static void promise19_what5OfAFullFleet() {
+        FleetSlots x = Fleet.of30();
+        x.version(1, 0, 0);
+        begin(x, 0, 100);
+        check.due("none of 30", 0, x.runs(5));
+        check.due("29 are asked", 29, x.tick(2999));
+        check.due("29 of 30", 29, x.runs(5));
+        check.due("the last is asked", 1, x.tick(100));
+        check.due("30 of 30", 30, x.runs(5));
     }
 
     @Says("BAD")
