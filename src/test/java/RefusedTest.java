@@ -4,7 +4,9 @@ import java.util.Random;
 public final class RefusedTest {
     private static final Check check = new Check(RefusedTest.class);
     private static final int BAD = Check.BAD, STATE = Check.STATE, FULL = Check.FULL, NONE = Check.NONE;
-    private static final int TWINS = 1500, CALLS = 200;
+    private static final int TWINS = 1500, CALLS = 200, ALL_CALLS = 512;
+    /** An object answers 512 calls, and what is looked at behind the random ones counts, too. */
+    private static final int MOST_LOOKED_AT = 20;
 
     public static void main(String[] args) throws IllegalAccessException {
         check.runAll();
@@ -175,7 +177,7 @@ public final class RefusedTest {
         for (int i = 0; i <= 5; i++) {
             check.due(when + "trace " + i, a.trace(i), b.trace(i));
         }
-        for (int d = 0; d < a.count(2); d++) {
+        for (int d = 0; d < Math.min(a.count(2), MOST_LOOKED_AT); d++) {
             for (int what = 0; what <= 7; what++) {
                 check.due(when + "told " + d + ", " + what, a.told(d, what), b.told(d, what));
             }
@@ -201,11 +203,16 @@ public final class RefusedTest {
         for (int run = 0; run < 200; run++) {
             Random random = new Random(-1 - run);
             FleetSlots x = new FleetSlots();
-            for (int k = 0; k < 1000; k++) {
-                Calls.answer(x, Calls.next(random));
-            }
+            randomCalls(x, random, ALL_CALLS - 1);
             int status = x.status();
             check.dueTrue("run " + run + ": status() is 0 to 5", status >= 0 && status <= 5);
+            randomCalls(x, random, ALL_CALLS);
+        }
+    }
+
+    private static void randomCalls(FleetSlots x, Random random, int many) {
+        for (int k = 0; k < many; k++) {
+            Calls.answer(x, Calls.next(random));
         }
     }
 }
