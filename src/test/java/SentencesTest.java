@@ -1,11 +1,7 @@
 import java.io.IOException;
 import java.lang.reflect.Method;
-import java.nio.file.Files;
-import java.nio.file.Path;
 import java.util.Map;
 import java.util.TreeMap;
-import java.util.regex.Matcher;
-import java.util.regex.Pattern;
 
 /**
  * Each word of the Terms and the promises of ../shared/DOC.md has a test that says it: so no sentence is without one,
@@ -15,12 +11,9 @@ public final class SentencesTest {
     private static final Check check = new Check(SentencesTest.class);
     private static final Class<?>[] TESTS = {SheetsTest.class, VersionsTest.class, DevicesTest.class,
         CampaignsTest.class, AskedTest.class, RefusedTest.class};
-    /** The parts of the Terms, by the words that begin them; 0 is what stands ahead of the first of these. */
-    private static final Pattern PART = Pattern.compile("======== (\\d) ");
-    private static final Pattern PROMISE = Pattern.compile("## Promise (\\d+): [^\n]*\n\\s*`[^`]*`: ([^#]*)");
 
     public static void main(String[] args) throws IOException {
-        Map<String, String> parts = partsOf(Files.readString(Path.of("../shared/DOC.md")));
+        Map<String, String> parts = Document.parts();
         check.due("parts: 5 of the Terms, 26 promises", 31, parts.size());
         Map<String, boolean[]> said = new TreeMap<>();
         for (Map.Entry<String, String> part : parts.entrySet()) {
@@ -36,33 +29,6 @@ public final class SentencesTest {
                 unsaid(part.getValue(), said.get(part.getKey())).length());
         }
         check.end();
-    }
-
-    /** "terms0" to "terms4", "promise01" to "promise26": the words of each, with one blank between them. */
-    private static Map<String, String> partsOf(String doc) {
-        Map<String, String> parts = new TreeMap<>();
-        int from = doc.indexOf("## Terms\n");
-        int to = doc.indexOf("Ahead of the calls `sheet`", from);
-        check.dueTrue("the document has Terms", from >= 0 && to > from);
-        String terms = doc.substring(from + "## Terms\n".length(), to).replace("```text", " ").replace("```", " ");
-        Matcher part = PART.matcher(terms);
-        String name = "terms0";
-        int begin = 0;
-        while (part.find()) {
-            parts.put(name, plain(terms.substring(begin, part.start())));
-            name = "terms" + part.group(1);
-            begin = part.end();
-        }
-        parts.put(name, plain(terms.substring(begin)));
-        Matcher promise = PROMISE.matcher(doc);
-        while (promise.find()) {
-            parts.put(String.format("promise%02d", Integer.parseInt(promise.group(1))), plain(promise.group(2)));
-        }
-        return parts;
-    }
-
-    private static String plain(String text) {
-        return text.replaceAll("\\s+", " ").trim();
     }
 
     private static void note(Method m, Map<String, String> parts, Map<String, boolean[]> said) {
@@ -87,6 +53,6 @@ public final class SentencesTest {
             boolean sign = Character.isLetterOrDigit(words.charAt(k));
             left.append(said[k] || !sign ? ' ' : words.charAt(k));
         }
-        return plain(left.toString());
+        return Document.plain(left.toString());
     }
 }
